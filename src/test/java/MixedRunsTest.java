@@ -2,7 +2,7 @@ import java.util.Arrays;
 
 /**
  * All promises at once: many runs of 512 calls, always the same ones, answered by the program and
- * by PlainVolume. Each run ends with questions about everything.
+ * by PlainVolume.
  */
 public final class MixedRunsTest {
     private static final int RUNS = 600;
