@@ -8,43 +8,43 @@ import java.util.TreeSet;
 /** The public face: what the document lists, and nothing else that is not private. */
 public final class FaceTest {
     private static final String METHODS = """
-        int write(int, int, int, int)
-        int read(int, int, int)
-        int blockAt(int, int, int)
-        int length(int, int)
-        int punch(int, int, int, int)
-        int reflink(int, int, int, int, int, int)
+        int write(int, int, int, int) throws IndexOutOfBoundsException, IllegalStateException
+        int read(int, int, int) throws IndexOutOfBoundsException
+        int blockAt(int, int, int) throws IndexOutOfBoundsException
+        int length(int, int) throws IndexOutOfBoundsException
+        int punch(int, int, int, int) throws IndexOutOfBoundsException, IllegalArgumentException
+        int reflink(int, int, int, int, int, int) throws IndexOutOfBoundsException, IllegalArgumentException
         int commit()
         int crash()
         int transaction()
-        int snapshot(int)
-        int readSnapshot(int, int, int)
-        int blockInSnapshot(int, int, int)
-        int transactionOf(int)
-        int datasetOf(int)
-        int snapshots(int)
-        int snapshotAt(int, int)
-        int destroySnapshot(int)
-        int rollback(int, int)
-        int changed(int, int)
+        int snapshot(int) throws IndexOutOfBoundsException, IllegalStateException
+        int readSnapshot(int, int, int) throws IndexOutOfBoundsException
+        int blockInSnapshot(int, int, int) throws IndexOutOfBoundsException
+        int transactionOf(int) throws IndexOutOfBoundsException
+        int datasetOf(int) throws IndexOutOfBoundsException
+        int snapshots(int) throws IndexOutOfBoundsException
+        int snapshotAt(int, int) throws IndexOutOfBoundsException
+        int destroySnapshot(int) throws IndexOutOfBoundsException, IllegalStateException
+        int rollback(int, int) throws IndexOutOfBoundsException, IllegalArgumentException, IllegalStateException
+        int changed(int, int) throws IndexOutOfBoundsException
         int datasets()
-        int makeClone(int)
-        int origin(int)
-        int promote(int)
-        int destroy(int)
-        int referenced(int)
-        int unique(int)
-        int uniqueOfSnapshot(int)
-        int newer(int, int)
-        int birth(int)
-        int references(int)
+        int makeClone(int) throws IndexOutOfBoundsException, IllegalStateException
+        int origin(int) throws IndexOutOfBoundsException
+        int promote(int) throws IndexOutOfBoundsException, IllegalStateException
+        int destroy(int) throws IndexOutOfBoundsException, IllegalStateException
+        int referenced(int) throws IndexOutOfBoundsException
+        int unique(int) throws IndexOutOfBoundsException
+        int uniqueOfSnapshot(int) throws IndexOutOfBoundsException
+        int newer(int, int) throws IndexOutOfBoundsException
+        int birth(int) throws IndexOutOfBoundsException, IllegalStateException
+        int references(int) throws IndexOutOfBoundsException
         int free()
         int pending()
-        int freeIn(int)
-        int logEntries(int)
-        int runAt(int, int)
-        boolean allocates(int, int)
-        int replay(int)
+        int freeIn(int) throws IndexOutOfBoundsException
+        int logEntries(int) throws IndexOutOfBoundsException
+        int runAt(int, int) throws IndexOutOfBoundsException
+        boolean allocates(int, int) throws IndexOutOfBoundsException
+        int replay(int) throws IndexOutOfBoundsException
         int condensed()
         """;
 
@@ -71,14 +71,21 @@ public final class FaceTest {
         for (Method method : Cowmeadow.class.getDeclaredMethods()) {
             if (!Modifier.isPrivate(method.getModifiers()) && !method.isSynthetic()) {
                 due(method.getName(), Modifier.toString(method.getModifiers()), "public");
-                StringBuilder types = new StringBuilder();
-                for (Class<?> type : method.getParameterTypes()) {
-                    types.append(types.length() == 0 ? "" : ", ").append(type);
-                }
-                found.add(method.getReturnType() + " " + method.getName() + "(" + types + ")");
+                String thrown = joined(method.getExceptionTypes());
+                found.add(method.getReturnType() + " " + method.getName() + "("
+                    + joined(method.getParameterTypes()) + ")"
+                    + (thrown.isEmpty() ? "" : " throws " + thrown));
             }
         }
         return found;
+    }
+
+    private static String joined(Class<?>[] types) {
+        StringBuilder names = new StringBuilder();
+        for (Class<?> type : types) {
+            names.append(names.length() == 0 ? "" : ", ").append(type.getSimpleName());
+        }
+        return names.toString();
     }
 
     private static Set<String> fieldsOfTheFace() {

@@ -77,6 +77,13 @@ final class PlainVolume {
         kept = now.copy();
     }
 
+    PlainVolume copy() {
+        PlainVolume copy = new PlainVolume();
+        copy.now = now.copy();
+        copy.kept = kept.copy();
+        return copy;
+    }
+
     /** Answers a call as Run.ask does. */
     String ask(String name, int[] a) {
         try {
