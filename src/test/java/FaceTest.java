@@ -56,7 +56,7 @@ public final class FaceTest {
         due("how many constructors", constructors.length, 1);
         due("the constructor", constructors[0].toString(), "public Cowmeadow()");
         due("the class", Modifier.toString(Cowmeadow.class.getModifiers()), "public final");
-        namesOfPrivateMethods();
+        classesInside();
         Run.end();
     }
 
@@ -99,14 +99,15 @@ public final class FaceTest {
         return found;
     }
 
-    /** No private method bears the name of a public one. */
-    private static void namesOfPrivateMethods() {
+    /** The classes inside are nobody else's, and no private method bears the name of a public one. */
+    private static void classesInside() {
         Set<String> names = new TreeSet<>();
         for (String line : METHODS.lines().toList()) {
             names.add(line.substring(line.indexOf(' ') + 1, line.indexOf('(')));
         }
         checkPrivateNames(Cowmeadow.class, names);
         for (Class<?> inside : Cowmeadow.class.getDeclaredClasses()) {
+            due("who sees " + inside, inside.getModifiers() & (Modifier.PUBLIC | Modifier.PROTECTED), 0);
             checkPrivateNames(inside, names);
         }
     }

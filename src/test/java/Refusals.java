@@ -4,21 +4,25 @@ import java.util.List;
 /**
  * Calls that a volume refuses: each throws what is due, and changes nothing. The latter is asked
  * of two volumes that have had the same calls, but for the refused ones: all that can be asked of
- * them has the same answers, at once and behind one more call of each kind that changes something.
- * An object answers only so many calls, so the questions go to many pairs of such volumes.
+ * them has the same answers, at once and behind some more calls that change something. An object
+ * answers only so many calls, so the questions go to many pairs of such volumes.
  */
 final class Refusals {
     private final String title;
     private final List<Run.Call> state;
-    private final List<List<Run.Call>> questionnaires = new ArrayList<>();
+    private final List<Questionnaire> questionnaires = new ArrayList<>();
+
+    /** What to ask behind some more calls; the answers are those of a volume without refused ones. */
+    private record Questionnaire(List<Run.Call> more, List<Run.Call> questions) {
+    }
 
     /** The volume that is meant is the one behind these calls, given as Run takes them. */
     Refusals(String title, String state) {
         Run.of(title, state);
         this.title = title;
         this.state = Run.calls(state);
-        for (String last : oneMoreCall(volumeBehind(List.of()))) {
-            questionnaires.add(questionnaire(last));
+        for (String more : moreCalls(volumeBehind(List.of()))) {
+            questionnaires.add(questionnaire(Run.calls(more)));
         }
     }
 
@@ -33,8 +37,8 @@ final class Refusals {
         if (!throwsWhatIsDue(refused)) {
             return;
         }
-        for (List<Run.Call> questions : questionnaires) {
-            if (!staysTheSame(refused, questions)) {
+        for (Questionnaire questionnaire : questionnaires) {
+            if (!staysTheSame(refused, questionnaire)) {
                 return;
             }
         }
@@ -58,19 +62,18 @@ final class Refusals {
         return right;
     }
 
-    private boolean staysTheSame(List<Run.Call> refused, List<Run.Call> questions) {
-        int room = Run.CALLS_OF_AN_OBJECT - state.size() - refused.size();
-        Run.Call last = questions.get(0);
-        for (int from = 1; from < questions.size(); from += room - 1) {
+    private boolean staysTheSame(List<Run.Call> refused, Questionnaire asked) {
+        List<Run.Call> questions = asked.questions();
+        int room = Run.CALLS_OF_AN_OBJECT - state.size() - refused.size() - asked.more().size();
+        for (int from = 0; from < questions.size(); from += room) {
+            List<Run.Call> part = new ArrayList<>(asked.more());
+            part.addAll(questions.subList(from, Math.min(from + room, questions.size())));
             Cowmeadow volume = volumeBehind(refused);
-            int to = Math.min(from + room - 1, questions.size());
-            List<Run.Call> part = new ArrayList<>(questions.subList(from, to));
-            part.add(0, last);
             for (Run.Call question : part) {
                 String got = Run.ask(volume, question.name(), question.arguments());
                 if (!got.equals(question.due())) {
-                    Run.fail(title + ", behind the refused " + refused + " and " + last + ", "
-                        + question + " answered " + got + " instead of " + question.due());
+                    Run.fail(title + ", behind the refused " + refused + " and " + asked.more()
+                        + ", " + question + " answered " + got + " instead of " + question.due());
                     return false;
                 }
             }
@@ -91,38 +94,45 @@ final class Refusals {
 
     // ---- what can be asked
 
-    private static List<String> oneMoreCall(Cowmeadow volume) {
-        List<String> calls = new ArrayList<>(List.of("transaction()", "commit()", "crash()"));
+    private static List<String> moreCalls(Cowmeadow volume) {
         List<Integer> datasets = answering(volume, "origin", 0, 6);
-        calls.add("write(" + datasets.get(0) + ", 5, 9, 77)");
-        calls.add("snapshot(" + datasets.get(0) + ")");
-        calls.add("promote(" + datasets.get(datasets.size() - 1) + ")");
         List<Integer> snapshots = answering(volume, "datasetOf", 0, 40);
+        int dataset = datasets.get(0);
+        int lastDataset = datasets.get(datasets.size() - 1);
+        List<String> calls = new ArrayList<>(List.of("", "commit() =", "crash() ="));
+        calls.add("write(" + dataset + ", 5, 9, 77) =");
+        calls.add("snapshot(" + dataset + ") =");
+        calls.add("promote(" + lastDataset + ") =");
+        // Destroying makes room, so that it is seen which numbers come next.
+        calls.add("destroy(" + lastDataset + ") =");
         if (!snapshots.isEmpty()) {
-            calls.add("makeClone(" + snapshots.get(0) + ")");
-            calls.add("destroySnapshot(" + snapshots.get(snapshots.size() - 1) + ")");
+            int last = snapshots.get(snapshots.size() - 1);
+            calls.add("makeClone(" + snapshots.get(0) + ") =");
+            calls.add("destroySnapshot(" + last + ") =\nsnapshot(" + dataset + ") =\ncrash() =");
+            calls.add("crash() =\ndestroySnapshot(" + last + ") =\nsnapshot(" + dataset + ") =");
+            calls.add("destroy(" + lastDataset + ") =\nmakeClone(" + last + ") =\ncommit() =");
         }
         return calls;
     }
 
-    /** A call, and all questions behind it, with the answers of a volume without refused calls. */
-    private List<Run.Call> questionnaire(String last) {
-        Run.Call lastCall = Run.calls(last + " = ").get(0);
-        Cowmeadow volume = volumeBehind(List.of());
+    private Questionnaire questionnaire(List<Run.Call> more) {
+        List<Run.Call> questions = Run.calls(questions(volumeBehind(more)));
+        int room = Run.CALLS_OF_AN_OBJECT - state.size() - more.size();
         List<Run.Call> answered = new ArrayList<>();
-        answered.add(answered(volume, lastCall));
-        for (Run.Call question : Run.calls(questions(volumeBehind(List.of(lastCall))))) {
-            if (answered.size() % (Run.CALLS_OF_AN_OBJECT - state.size() - 1) == 0) {
-                volume = volumeBehind(List.of(lastCall));
-            }
-            answered.add(answered(volume, question));
+        for (int from = 0; from < questions.size(); from += room) {
+            int to = Math.min(from + room, questions.size());
+            answered.addAll(answered(volumeBehind(more), questions.subList(from, to)));
         }
-        return answered;
+        return new Questionnaire(answered(volumeBehind(List.of()), more), answered);
     }
 
-    private static Run.Call answered(Cowmeadow volume, Run.Call call) {
-        String answer = Run.ask(volume, call.name(), call.arguments());
-        return new Run.Call(call.name(), call.arguments(), answer);
+    private static List<Run.Call> answered(Cowmeadow volume, List<Run.Call> calls) {
+        List<Run.Call> answered = new ArrayList<>();
+        for (Run.Call call : calls) {
+            String answer = Run.ask(volume, call.name(), call.arguments());
+            answered.add(new Run.Call(call.name(), call.arguments(), answer));
+        }
+        return answered;
     }
 
     private static String questions(Cowmeadow volume) {

@@ -657,6 +657,23 @@ public final class TermsTest {
             snapshots(0) = 1
             snapshotAt(0, 0) = 1
             """);
+        Run.of("A crash brings back the order, too", """
+            snapshot(0) = 0
+            snapshot(0) = 1
+            snapshot(0) = 2
+            makeClone(1) = 1
+            commit() = 4
+            destroySnapshot(0) = 0
+            snapshotAt(0, 0) = 1
+            promote(1) = 1
+            snapshotAt(0, 0) = 2
+            snapshotAt(1, 0) = 1
+            crash() = 5
+            snapshotAt(0, 0) = 0
+            snapshotAt(0, 1) = 1
+            snapshotAt(0, 2) = 2
+            snapshots(1) = 0
+            """);
     }
 
     private static void clones() {
